@@ -236,8 +236,10 @@ public final class PromisesTest {
         // Row 3 has time 1, ahead of the MAKE of 2, so it stays passed over.
         due("3: known now, judged", x.judged(3, 3), 2);
         due("3: known now, there", x.total(33), 3);
-        due("3: again", x.move(3, 2, 0, NONE), 4);
-        due("3: again, judged", x.judged(3, 4), 1);
+        x.see(3, x.move(2, 1, 0, NONE));
+        due("3: judged anew, not there yet", x.judged(3, 3), 2);
+        due("3: again", x.move(3, 2, 0, NONE), 5);
+        due("3: again, judged", x.judged(3, 5), 1);
     }
 
     private static void promise4Remove() {
@@ -356,6 +358,10 @@ public final class PromisesTest {
         due("5: no ring any more", x.judged(0, ring), 1);
         due("5: no ring any more, parent", x.object(0, 2, 0), 1);
         due("5: undone", x.judged(0, into), 3);
+        due("5: where it was last, without it", x.object(0, 1, 5), 0);
+        BinTrees y = chain(2);
+        y.undo(0, 4);
+        due("5: where it was last, never moved", y.object(0, 2, 5), 0);
         due("5: passed over ones may be undone", x.undo(0, x.move(0, 1, 1, NONE)), 9);
         due("5: passed over, undone", x.judged(0, 8), 3);
     }
