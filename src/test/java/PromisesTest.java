@@ -46,30 +46,7 @@ public final class PromisesTest {
     }
 
     private static void children(String what, BinTrees x, int node, int of, int... want) {
-        for (int k = 0; k < want.length; k++) {
-            due(what + ", child " + k, x.child(node, of, k), want[k]);
-        }
-        due(what + ", behind the last child", x.child(node, of, want.length), NONE);
-    }
-
-    /** Node 0 makes so many objects, and puts them under THE ROOT in their order. */
-    private static BinTrees flat(int objects) {
-        BinTrees x = new BinTrees();
-        for (int o = 1; o <= objects; o++) {
-            x.make(0);
-            x.move(0, o, 0, o == 1 ? NONE : o - 1);
-        }
-        return x;
-    }
-
-    /** Node 0 makes so many objects: 1 under THE ROOT, 2 under 1, 3 under 2 .. */
-    private static BinTrees chain(int objects) {
-        BinTrees x = new BinTrees();
-        for (int o = 1; o <= objects; o++) {
-            x.make(0);
-            x.move(0, o, o - 1, NONE);
-        }
-        return x;
+        check.children(what, x, node, of, want);
     }
 
     private static void promise1NewObject() {
@@ -125,7 +102,7 @@ public final class PromisesTest {
     }
 
     private static void promise3MoveRefusals() {
-        BinTrees x = flat(3);
+        BinTrees x = Scenes.flat(3);
         due("3: node -1", x.move(-1, 1, 0, NONE), NONE);
         due("3: node 4", x.move(4, 1, 0, NONE), NONE);
         due("3: the root", x.move(0, 0, 1, NONE), NONE);
@@ -150,7 +127,7 @@ public final class PromisesTest {
     }
 
     private static void promise3MovePlaces() {
-        BinTrees x = flat(4);
+        BinTrees x = Scenes.flat(4);
         children("3: one behind the other", x, 0, 0, 1, 2, 3, 4);
         x.move(0, 1, 0, 3);
         children("3: behind 3", x, 0, 0, 2, 3, 1, 4);
@@ -177,7 +154,7 @@ public final class PromisesTest {
     }
 
     private static void promise3MovePassedOver() {
-        BinTrees x = chain(3);
+        BinTrees x = Scenes.chain(3);
         int row = x.move(0, 1, 3, NONE);
         due("3: below itself", x.judged(0, row), 2);
         due("3: below itself, parent", x.object(0, 1, 0), 0);
@@ -202,7 +179,7 @@ public final class PromisesTest {
     }
 
     private static void promise3MoveDepth() {
-        BinTrees x = chain(9);
+        BinTrees x = Scenes.chain(9);
         due("3: 8 deep", x.object(0, 8, 1), 8);
         due("3: 9 deep is passed over", x.judged(0, 18), 2);
         due("3: it lies in the bin", x.object(0, 9, 3), 1);
@@ -243,7 +220,7 @@ public final class PromisesTest {
     }
 
     private static void promise4Remove() {
-        BinTrees x = chain(3);
+        BinTrees x = Scenes.chain(3);
         due("4: node -1", x.remove(-1, 1, false), NONE);
         due("4: node 4", x.remove(4, 1, true), NONE);
         due("4: the root", x.remove(0, 0, false), NONE);
@@ -273,7 +250,7 @@ public final class PromisesTest {
     }
 
     private static void promise4Restore() {
-        BinTrees x = flat(4);
+        BinTrees x = Scenes.flat(4);
         x.move(0, 2, 1, NONE);
         x.move(0, 3, 1, 2);
         int row = x.remove(0, 2, true);
@@ -299,7 +276,7 @@ public final class PromisesTest {
     }
 
     private static void promise4RestoreElsewhere() {
-        BinTrees x = chain(3);
+        BinTrees x = Scenes.chain(3);
         x.remove(0, 2, false);
         x.remove(0, 1, false);
         int row = x.remove(0, 2, true);
@@ -307,7 +284,7 @@ public final class PromisesTest {
         due("4: so it goes to the root", x.object(0, 2, 0), 0);
         due("4: where it was last is that then", x.object(0, 2, 5), 0);
 
-        BinTrees y = chain(8);
+        BinTrees y = Scenes.chain(8);
         y.remove(0, 7, false);
         y.make(0);
         y.move(0, 9, 0, 1);
@@ -320,7 +297,7 @@ public final class PromisesTest {
     }
 
     private static void promise5Undo() {
-        BinTrees x = flat(2);
+        BinTrees x = Scenes.flat(2);
         x.remove(0, 1, false);
         x.remove(0, 1, true);
         due("5: node -1", x.undo(-1, 2), NONE);
@@ -350,7 +327,7 @@ public final class PromisesTest {
     }
 
     private static void promise5UndoJudgesAnew() {
-        BinTrees x = flat(2);
+        BinTrees x = Scenes.flat(2);
         int into = x.move(0, 1, 2, NONE);
         int ring = x.move(0, 2, 1, NONE);
         due("5: a ring", x.judged(0, ring), 2);
@@ -359,7 +336,7 @@ public final class PromisesTest {
         due("5: no ring any more, parent", x.object(0, 2, 0), 1);
         due("5: undone", x.judged(0, into), 3);
         due("5: where it was last, without it", x.object(0, 1, 5), 0);
-        BinTrees y = chain(2);
+        BinTrees y = Scenes.chain(2);
         y.undo(0, 4);
         due("5: where it was last, never moved", y.object(0, 2, 5), 0);
         due("5: passed over ones may be undone", x.undo(0, x.move(0, 1, 1, NONE)), 9);
@@ -367,7 +344,7 @@ public final class PromisesTest {
     }
 
     private static void promise6See() {
-        BinTrees x = flat(2);
+        BinTrees x = Scenes.flat(2);
         due("6: node -1", x.see(-1, 1), NONE);
         due("6: node 4", x.see(4, 1), NONE);
         due("6: row 0", x.see(1, 0), NONE);
@@ -391,7 +368,7 @@ public final class PromisesTest {
     }
 
     private static void promise6SeeUndo() {
-        BinTrees x = flat(3);
+        BinTrees x = Scenes.flat(3);
         x.undo(0, 4);
         due("6: an undo of an unknown row", x.see(1, 7), 0);
         due("6: cost", x.cost(1), 0);
@@ -411,7 +388,7 @@ public final class PromisesTest {
     }
 
     private static void promise7Meet() {
-        BinTrees x = flat(2);
+        BinTrees x = Scenes.flat(2);
         due("7: itself", x.meet(0, 0), NONE);
         due("7: node -1", x.meet(-1, 0), NONE);
         due("7: other -1", x.meet(0, -1), NONE);
@@ -441,7 +418,7 @@ public final class PromisesTest {
     }
 
     private static void promise8Cost() {
-        BinTrees x = flat(3);
+        BinTrees x = Scenes.flat(3);
         due("8: node -1", x.cost(-1), NONE);
         due("8: node 4", x.cost(4), NONE);
         due("8: ahead of any", x.cost(1), 0);
@@ -470,7 +447,7 @@ public final class PromisesTest {
     }
 
     private static void promise9Object() {
-        BinTrees x = chain(3);
+        BinTrees x = Scenes.chain(3);
         x.make(0);
         x.make(0);
         x.move(0, 5, 1, 2);
@@ -513,7 +490,7 @@ public final class PromisesTest {
     }
 
     private static void promise10Child() {
-        BinTrees x = flat(3);
+        BinTrees x = Scenes.flat(3);
         x.move(0, 3, 1, NONE);
         x.remove(0, 2, false);
         children("10: the root", x, 0, 0, 1);
@@ -567,7 +544,7 @@ public final class PromisesTest {
     }
 
     private static void promise12Judged() {
-        BinTrees x = flat(2);
+        BinTrees x = Scenes.flat(2);
         x.move(0, 1, 1, NONE);
         x.remove(0, 2, false);
         x.undo(0, 6);
@@ -591,7 +568,7 @@ public final class PromisesTest {
     }
 
     private static void promise13Alike() {
-        BinTrees x = flat(2);
+        BinTrees x = Scenes.flat(2);
         due("13: itself", x.alike(0, 0), true);
         due("13: other objects", x.alike(0, 1), false);
         x.meet(1, 0);
@@ -642,7 +619,7 @@ public final class PromisesTest {
     }
 
     private static void orderBetweenParentsDoesNotCount() {
-        BinTrees x = flat(4);
+        BinTrees x = Scenes.flat(4);
         x.meet(1, 0);
         x.move(0, 3, 1, NONE);
         x.move(0, 4, 2, NONE);
@@ -652,7 +629,7 @@ public final class PromisesTest {
     }
 
     private static void promise14Total() {
-        BinTrees x = chain(3);
+        BinTrees x = Scenes.chain(3);
         x.remove(0, 2, false);
         x.undo(0, 6);
         x.make(2);
@@ -680,7 +657,7 @@ public final class PromisesTest {
     }
 
     private static void termsOrder() {
-        BinTrees x = flat(2);
+        BinTrees x = Scenes.flat(2);
         for (int n = 1; n < 4; n++) {
             x.meet(n, 0);
         }
@@ -699,7 +676,7 @@ public final class PromisesTest {
     }
 
     private static void termsThreeHundredRows() {
-        BinTrees x = flat(2);
+        BinTrees x = Scenes.flat(2);
         for (int row = 5; row <= 299; row++) {
             due("300: row", x.move(row % 2, 1 + row % 2, 0, NONE), row);
         }
