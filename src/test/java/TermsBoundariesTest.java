@@ -258,6 +258,9 @@ public final class TermsBoundariesTest {
         due("it lies in THE BIN", x.object(1, 2, 3), 1);
         int behind = x.move(1, 2, 0, NONE);
         due("behind its MAKE", x.judged(1, behind), 1);
+        x.undo(1, behind);
+        due("judged anew once more, still none before that", x.judged(1, ahead), 2);
+        check.children("once in THE BIN", x, 1, NONE, 1, 2);
         int[] sorts = {x.row(1, 0), x.row(ahead, 0), x.row(x.remove(0, 1, false), 0), x.row(x.remove(0, 1, true), 0),
             x.row(x.undo(0, x.remove(0, 1, false)), 0)};
         for (int sort = 0; sort < sorts.length; sort++) {
@@ -353,6 +356,9 @@ public final class TermsBoundariesTest {
         due("where it was last", x.object(0, 3, 5), 0);
         due("no parent", x.object(0, 3, 0), NONE);
         due("a MAKE acts", x.judged(0, 5), 1);
+        BinTrees y = Scenes.chain(2);
+        y.undo(0, 4);
+        due("where it was last, when its only MOVE is UNDONE", y.object(0, 2, 5), 0);
     }
 
     private static void moveOfWhatIsNotThere() {
@@ -525,6 +531,10 @@ public final class TermsBoundariesTest {
         BinTrees x = Scenes.flat(4);
         x.move(0, 3, 0, 3);
         children("the OBJECT itself", x, 0, 0, 3, 1, 2, 4);
+        x.move(0, 4, 0, 4);
+        children("the OBJECT itself, the last one", x, 0, 0, 4, 3, 1, 2);
+        x.move(0, 4, 0, 4);
+        children("the OBJECT itself, the first one", x, 0, 0, 4, 3, 1, 2);
         x.move(0, 4, 0, 0);
         children("THE ROOT", x, 0, 0, 4, 3, 1, 2);
         x.move(0, 1, 2, NONE);
