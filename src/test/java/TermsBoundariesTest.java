@@ -33,6 +33,7 @@ public final class TermsBoundariesTest {
         undoOfItsOwnMovesRemovesRestores();
         undoneWhereTheUndoIsKnown();
         treeOfKnownRows();
+        whatComesLaterWeighsNothing();
         parentOrBin();
         makeIntoTheBin();
         moveOfWhatIsNotThere();
@@ -324,6 +325,22 @@ public final class TermsBoundariesTest {
         children("an UNDO alone changes nothing", x, 3, 0);
         x.see(3, 7);
         due("THE ROOT alone still", x.total(33), 1);
+    }
+
+    private static void whatComesLaterWeighsNothing() {
+        check.sentence("Terms", "THE TREE OF A NODE comes of the ROWS that it KNOWS and that are not UNDONE there, but for UNDOS, "
+            + "one after the other in ORDER; THE ROOT alone is there at first.");
+        BinTrees x = Scenes.chain(8);
+        x.move(0, 8, 0, NONE);
+        x.make(0);
+        x.move(0, 9, 8, NONE);
+        x.remove(0, 9, false);
+        x.remove(0, 9, true);
+        due("9 is below 8", x.object(0, 9, 0), 8);
+        x.undo(0, x.move(0, 9, 9, NONE));
+        // Row 16 took 8 to the deepest place when there was no 9 yet.
+        due("judged anew, without what comes later", x.judged(0, 16), 1);
+        due("9 is below 8 as before", x.object(0, 9, 0), 8);
     }
 
     private static void parentOrBin() {
