@@ -1,5 +1,3 @@
-import java.util.Arrays;
-
 /** A tree that four people change at once; each one's tree comes of the rows known there. */
 public final class BinTrees {
     public static final int NONE = -1;
@@ -361,8 +359,9 @@ public final class BinTrees {
         }
 
         void startAnew() {
-            Arrays.fill(there, false);
-            there[ROOT] = true;
+            for (int o = 0; o < OBJECTS; o++) {
+                there[o] = o == ROOT;
+            }
             parent[ROOT] = NONE;
             wasLast[ROOT] = NONE;
             size = 0;

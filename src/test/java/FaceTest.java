@@ -20,6 +20,11 @@ public final class FaceTest {
     private static final Pattern FORBIDDEN = Pattern.compile(
         "\\b(throw|throws|try|catch|synchronized|assert|package|Exact|System\\.(?!arraycopy)\\w+)\\b|->|::");
 
+    /** Rule 4 of LANGUAGE.md: what may be called of classes that are not this file's own. */
+    private static final Pattern LIBRARY = Pattern.compile(
+        "System\\.arraycopy|Arrays\\.(copyOf|copyOfRange|fill)"
+        + "|(Math|Integer|Long)\\.(compare|max|min|abs|bitCount|floorDiv|floorMod)");
+
     private static final Check check = new Check("FaceTest");
 
     private FaceTest() {
@@ -88,6 +93,14 @@ public final class FaceTest {
     private static void source() throws IOException {
         String text = Files.readString(Path.of("src/main/java/BinTrees.java"));
         String bare = text.replaceAll("(?s)/\\*.*?\\*/", "").replaceAll("//[^\n]*", "");
+        words(bare);
+        check.sentence("LANGUAGE.md, rule 4", "The library: only what stands here.");
+        library(bare);
+        check.sentence("LANGUAGE.md, rule 4", "Arrays.copyOf, Arrays.copyOfRange, Arrays.fill over arrays of numbers");
+        arraysOfNumbers(bare);
+    }
+
+    private static void words(String bare) {
         Matcher found = FORBIDDEN.matcher(bare);
         while (found.find()) {
             check.due("in the source: " + found.group(), 1, 0);
@@ -95,6 +108,28 @@ public final class FaceTest {
         Matcher imports = Pattern.compile("import ([^;]+);").matcher(bare);
         while (imports.find()) {
             check.due("import of " + imports.group(1), imports.group(1).matches("java\\.util\\.(Arrays|ArrayList|List)"), true);
+        }
+    }
+
+    private static void library(String bare) {
+        check.due("the source has a class", bare.contains("class BinTrees"), true);
+        Matcher calls = Pattern.compile("\\b[A-Z]\\w*\\.\\w+(?=\\()").matcher(bare);
+        while (calls.find()) {
+            check.due(calls.group(), LIBRARY.matcher(calls.group()).matches(), true);
+        }
+    }
+
+    /** A boolean is no number, nor is an object of an own class. */
+    private static void arraysOfNumbers(String bare) {
+        Set<String> others = new TreeSet<>();
+        Matcher arrays = Pattern.compile("\\b(boolean|[A-Z]\\w*)\\[\\] (\\w+)").matcher(bare);
+        while (arrays.find()) {
+            others.add(arrays.group(2));
+        }
+        check.due("the array of people is seen", others.contains("people"), true);
+        Matcher uses = Pattern.compile("\\bArrays\\.\\w+\\((?:\\w+\\.)*(\\w+)").matcher(bare);
+        while (uses.find()) {
+            check.due(uses.group() + " is over numbers", others.contains(uses.group(1)), false);
         }
     }
 }
