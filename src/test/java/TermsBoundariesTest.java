@@ -30,6 +30,7 @@ public final class TermsBoundariesTest {
         knownRowsAndTime();
         orderByTimeThenNode();
         noneBeforeItsMake();
+        lastOneIsNoneBeforeItsMake();
         undoOfItsOwnMovesRemovesRestores();
         undoneWhereTheUndoIsKnown();
         treeOfKnownRows();
@@ -266,6 +267,23 @@ public final class TermsBoundariesTest {
             x.row(x.undo(0, x.remove(0, 1, false)), 0)};
         for (int sort = 0; sort < sorts.length; sort++) {
             due("sort " + sort, sorts[sort], sort);
+        }
+    }
+
+    private static void lastOneIsNoneBeforeItsMake() {
+        check.sentence("Terms", "THE ROOT alone is there at first.");
+        for (int object : new int[] {1, 39}) {
+            BinTrees x = Scenes.made(39);
+            // Its TIME is 1: ahead of the MAKE of 39, but behind that of 1, which is of TIME 1 too and of NODE 0.
+            int early = x.move(1, object, 0, NONE);
+            x.meet(1, 0);
+            due("early, of " + object, x.judged(1, early), object == 1 ? 1 : 2);
+            int late = x.move(1, object, 0, NONE);
+            due("late, of " + object, x.judged(1, late), 1);
+            x.undo(1, late);
+            due("gone through once more, of " + object, x.judged(1, early), object == 1 ? 1 : 2);
+            due("each is there once, with " + object, x.total(31), 40);
+            due("in THE BIN, with " + object, x.total(41), object == 1 ? 38 : 39);
         }
     }
 
